@@ -37,6 +37,9 @@ public final class BestTest {
         x.set(1, 3, 3);
         DUE.is("place(1, 1): 2 and 3 are as good", x.place(1, 1), 2);
         DUE.is("place(0, 1)", x.place(0, 1), 3);
+        NotedHouse y = Due.houseOf(0, 0, Due.COUGHER);
+        y.set(1, 3, 3);
+        DUE.is("the first seat: place(1, 1)", y.place(1, 1), 0);
         DUE.is("alone", Due.houseOf(0).place(0, 100), Due.NONE);
         // the same cough is worth having where one is asked
         x.play(0, 0, 3);
@@ -120,6 +123,10 @@ public final class BestTest {
         z.moments(15);
         z.set(0, 2, 0);
         DUE.is("fresh(0, 2, 6): a night between", z.fresh(0, 2, 6), 24);
+        z.turn(0, Due.WEEPER);
+        z.play(15, 1, 20);
+        // seven nights end in 100 moments from 15 on: 20 and 7 times 8
+        DUE.is("fresh(0, 100, 400)", z.fresh(0, 100, 400), 76);
     }
 
     private static void cueOfOneMoment() {

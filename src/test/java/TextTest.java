@@ -158,6 +158,8 @@ public final class TextTest {
         fault(0, "sitter fresh 4294967296", 13);
         fault(0, "sitter fresh 18446744073709551616", 13);
         fault(0, "sitterfresh 7", 0);
+        fault(0, "sitterz", 0);
+        fault(0, "sittera", 0);
         fault(0, "sitter\tfresh 7", 6);
         fault(0, "sitter\nfresh 7", 6);
         fault(0, "Sitter", 0);
