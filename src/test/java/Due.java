@@ -40,6 +40,14 @@ final class Due {
         return wrong > 0;
     }
 
+    int asked() {
+        return asked;
+    }
+
+    int wrong() {
+        return wrong;
+    }
+
     void end() {
         System.out.println(asked + " answers asked, " + wrong + " not as due");
         if (wrong > 0 || asked == 0) {

@@ -1,5 +1,3 @@
-import java.util.ArrayList;
-import java.util.List;
 import java.util.function.ToLongFunction;
 
 /**
@@ -21,97 +19,16 @@ public final class FindingsTest {
         DUE.end();
     }
 
-    /** Three people, one sheet of each size and a MISSING one, a tape, an image of another state. */
-    private static NotedHouse smallScene() {
-        NotedHouse x = Due.houseOf(1, 5);
-        x.play(2, 0, 4);
-        x.set(0, 2, 77);
-        x.image();
-        x.person(4);
-        x.play(2, 0, 3);
-        x.play(3, 1, 12);
-        x.moments(19);
-        x.set(1, 1, 33);
-        x.sheet(0, 8, 4);
-        x.sheet(1, 16, 3);
-        x.sheet(2, 64, 2);
-        for (int s = 0; s < 3; s++) {
-            x.write(s, 0, 10 + s);
-            x.write(s, 1, 20 + s);
-        }
-        Due.feed(x, "sleeper fresh 9;cue 9 laugh");
-        return x;
-    }
-
-    /** Eight people, and a tape on which two bytes more have room; no image. */
-    private static NotedHouse fullScene() {
-        NotedHouse x = Due.houseOf(0, 1, 2, 3, 4, 5, 0, 1);
-        x.sheet(0, 8, 2);
-        Due.feed(x, "cue 1 laugh" + " ".repeat(107));
-        return x;
-    }
-
-    /** All that can be seen of an object but status(); what it shows is used up by that. */
-    private static List<Long> seen(NotedHouse x) {
-        List<Long> all = new ArrayList<>();
-        seePlayAndPeople(x, all);
-        for (int s = 0; s < 4; s++) {
-            for (int i = 0; i < 5; i++) {
-                all.add(x.write(s, i, 0));
-            }
-        }
-        all.add((long) x.count(1));
-        all.add((long) x.evening());
-        seePlayAndPeople(x, all);
-        all.add((long) x.undo());
-        seePlayAndPeople(x, all);
-        all.add((long) x.tear());
-        return all;
-    }
-
-    private static void seePlayAndPeople(NotedHouse x, List<Long> all) {
-        for (int what = 0; what < 7; what++) {
-            all.add((long) x.now(what));
-        }
-        int people = x.count(0);
-        for (int p = 0; p < people; p++) {
-            for (int what = 0; what < 4; what++) {
-                all.add((long) x.of(p, what));
-            }
-        }
-        for (int moment = 0; moment < 16; moment++) {
-            int cue = x.play(moment, 0, 0);
-            int tense = x.play(moment, 1, 0);
-            x.play(moment, 0, cue);
-            x.play(moment, 1, tense);
-            all.add((long) cue * 100 + tense);
-        }
-    }
-
     private static void small(String call, int finding, ToLongFunction<NotedHouse> asked) {
-        check(call, finding, asked, smallScene(), smallScene());
+        Refused.is(DUE, Refused::small, call, finding, asked);
     }
 
     private static void full(String call, int finding, ToLongFunction<NotedHouse> asked) {
-        check("full: " + call, finding, asked, fullScene(), fullScene());
+        Refused.is(DUE, Refused::full, "full: " + call, finding, asked);
     }
 
-    private static void check(String call, int finding, ToLongFunction<NotedHouse> asked, NotedHouse x, NotedHouse y) {
-        int[] before = new int[8];
-        for (int which = -1; which < 7; which++) {
-            before[which + 1] = x.status(which);
-        }
-        DUE.is(call, asked.applyAsLong(x), finding);
-        for (int which = -1; which < 7; which++) {
-            boolean counted = which == -1 || which == Due.BEYOND - finding;
-            DUE.is(call + ": status(" + which + ")", x.status(which), before[which + 1] + (counted ? 1 : 0));
-        }
-        List<Long> asIs = seen(y);
-        List<Long> then = seen(x);
-        DUE.is(call + ": as much is seen", then.size(), asIs.size());
-        for (int i = 0; i < Math.min(then.size(), asIs.size()); i++) {
-            DUE.is(call + ": what is seen at " + i, then.get(i), asIs.get(i));
-        }
+    private static void nobody(String call, int finding, ToLongFunction<NotedHouse> asked) {
+        Refused.is(DUE, NotedHouse::new, "nobody: " + call, finding, asked);
     }
 
     private static void playAndPeople() {
@@ -184,13 +101,12 @@ public final class FindingsTest {
         small("tense(1, -10000)", Due.BEYOND, x -> x.tense(1, -10000));
         small("tense(1, 9999)", Due.NONE, x -> x.tense(1, 9999));
         small("best(401)", Due.BEYOND, x -> x.best(401));
-        NotedHouse nobody = new NotedHouse();
-        check("nobody: doze(1)", Due.NONE, x -> x.doze(1), nobody, new NotedHouse());
-        check("nobody: doze(0)", Due.BEYOND, x -> x.doze(0), new NotedHouse(), new NotedHouse());
-        check("nobody: best(0)", Due.NONE, x -> x.best(0), new NotedHouse(), new NotedHouse());
-        check("nobody: best(-1)", Due.BEYOND, x -> x.best(-1), new NotedHouse(), new NotedHouse());
-        check("nobody: tense(1, 1)", Due.NONE, x -> x.tense(1, 1), new NotedHouse(), new NotedHouse());
-        check("alone: place(0, 1)", Due.NONE, x -> x.place(0, 1), Due.houseOf(0), Due.houseOf(0));
+        nobody("doze(1)", Due.NONE, x -> x.doze(1));
+        nobody("doze(0)", Due.BEYOND, x -> x.doze(0));
+        nobody("best(0)", Due.NONE, x -> x.best(0));
+        nobody("best(-1)", Due.BEYOND, x -> x.best(-1));
+        nobody("tense(1, 1)", Due.NONE, x -> x.tense(1, 1));
+        Refused.is(DUE, () -> Due.houseOf(0), "alone: place(0, 1)", Due.NONE, x -> x.place(0, 1));
     }
 
     private static void textAndImages() {

@@ -8,7 +8,6 @@ public final class MomentsTest {
         notesAreHeld();
         freshIsHeld();
         momentsBeyond();
-        theLastNight();
         aSitterFarOn();
         onChangesNothing();
         houseOn();
@@ -108,26 +107,6 @@ public final class MomentsTest {
         DUE.is("moments beyond: now(1)", x.now(1), 0);
         DUE.is("moments beyond: now(4)", x.now(4), 10000);
         DUE.is("moments beyond: status(0)", x.status(0), bad.length);
-    }
-
-    /** It takes more than 512 calls to come there, which the document leaves free; the class holds it all the same. */
-    private static void theLastNight() {
-        NotedHouse x = Due.houseOf(3);
-        for (int i = 0; i < 799; i++) {
-            x.moments(200);
-        }
-        DUE.is("last night: now(0)", x.now(0), 9987);
-        DUE.is("last night: now(1)", x.now(1), 8);
-        DUE.is("last night: moments(200)", x.moments(200), Due.STATE);
-        DUE.is("last night: moments(201), BEYOND first", x.moments(201), Due.BEYOND);
-        DUE.is("last night: now(0) is left", x.now(0), 9987);
-        DUE.is("last night: now(1) is left", x.now(1), 8);
-        DUE.is("last night: moments(199)", x.moments(199), 15);
-        DUE.is("last night: now(0) then", x.now(0), 9999);
-        DUE.is("last night: moments(1)", x.moments(1), Due.STATE);
-        DUE.is("last night: status(4)", x.status(4), 2);
-        DUE.is("last night: ON goes further", x.on(0, 400, 0), 99);
-        DUE.is("last night: now(0) at last", x.now(0), 9999);
     }
 
     /**
