@@ -141,6 +141,8 @@ public final class EdgesOfBestTest {
         DUE.is("at the most, asked 1: kind(0, 1)", tired.kind(0, 1), Due.WIDOW);
         tired.set(0, 2, -9999);
         DUE.is("at the least, asked 1: kind(0, 1)", tired.kind(0, 1), Due.SITTER);
+        tired.play(0, 0, 4);
+        DUE.is("1 above the least, asked 4: kind(0, 1)", tired.kind(0, 1), Due.CLAQUE);
     }
 
     private static void kindBeyond() {
@@ -228,6 +230,26 @@ public final class EdgesOfBestTest {
         least.play(0, 0, 0);
         least.moments(1);
         DUE.is("from the least: cue(1)", least.cue(1), 1);
+        for (int moment = 0; moment < 16; moment++) {
+            cueOfEach(moment);
+        }
+    }
+
+    /** One who is still, sobs or coughs whatever is asked had best be asked that, in this very MOMENT. */
+    private static void cueOfEach(int moment) {
+        int[][] does = {{Due.SITTER, 0, 0}, {Due.WEEPER, 60, 1}, {Due.COUGHER, 0, 3}};
+        for (int[] d : does) {
+            NotedHouse x = Due.houseOf(d[0], Due.SLEEPER);
+            Due.playAll(x, 4, 20);
+            if (moment > 0) {
+                x.moments(moment);
+            }
+            x.set(0, 1, d[1]);
+            x.set(1, 3, 3);
+            x.set(1, 2, -9999);
+            x.set(0, 2, 0);
+            DUE.is("kind " + d[0] + " in " + moment + ": cue(1)", x.cue(1), 16 * d[2] + moment);
+        }
     }
 
     private static void cueBeyond() {
@@ -245,6 +267,10 @@ public final class EdgesOfBestTest {
         DUE.is("as good: doze(99)", x.doze(99), 0);
         DUE.is("in the 100th: doze(100)", x.doze(100), 1);
         DUE.is("alone: doze(1)", Due.houseOf(Due.SITTER).doze(1), 0);
+        NotedHouse first = Due.houseOf(Due.SITTER, Due.SITTER, Due.SLEEPER);
+        first.play(0, 0, 1);
+        first.set(1, 1, 0);
+        DUE.is("the first seat, others unlike: doze(1)", first.doze(1), 0);
         DUE.is("alone, a sleeper: doze(100)", Due.houseOf(Due.SLEEPER).doze(100), 0);
         NotedHouse y = Due.houseOf(3, 3, 3, 3, 3, 3, 3, 0);
         DUE.is("the last seat: doze(1)", y.doze(1), 7);
@@ -299,6 +325,7 @@ public final class EdgesOfBestTest {
         DUE.is("tense(100, 296)", y.tense(100, 296), 10);
         DUE.is("tense(100, 297)", y.tense(100, 297), 6);
         DUE.is("TENSE is left", y.count(2), 80);
+        ofAllMomentsAlike();
         DUE.is("nobody: tense(1, 0)", new NotedHouse().tense(1, 0), 20);
         DUE.is("nobody: tense(100, -9999)", new NotedHouse().tense(100, -9999), 20);
         y.set(0, 2, 9999);
@@ -308,6 +335,19 @@ public final class EdgesOfBestTest {
         z.set(0, 2, -9999);
         DUE.is("held at the least: tense(100, -9999)", z.tense(100, -9999), 20);
         DUE.is("status(-1)", x.status(-1) + y.status(-1) + z.status(-1), 0);
+    }
+
+    /** A sob is asked in one MOMENT alone, whose TENSE is too great as it is: it counts there, too. */
+    private static void ofAllMomentsAlike() {
+        for (int moment = 0; moment < 16; moment++) {
+            NotedHouse x = Due.houseOf(Due.SITTER);
+            Due.playAll(x, 0, 20);
+            x.play(moment, 0, 1);
+            x.set(0, 1, 7);
+            DUE.is("in " + moment + ": house(16)", x.house(16), 44);
+            DUE.is("in " + moment + ": tense(16, 48)", x.tense(16, 48), 7);
+            DUE.is("in " + moment + ": tense(16, 44)", x.tense(16, 44), 20);
+        }
     }
 
     private static void tenseBeyond() {

@@ -113,6 +113,19 @@ public final class EdgesOfPeopleTest {
             DUE.is("how many", x.count(0), n + 1);
             DUE.is("its KIND", x.of(n, 0), 5);
         }
+        // one who sits down where somebody was before is new all the same
+        NotedHouse y = new NotedHouse();
+        y.image();
+        y.person(1);
+        y.set(0, 1, 7);
+        y.set(0, 2, -7);
+        y.set(0, 3, 3);
+        y.undo();
+        DUE.is("in a seat that was left: person(2)", y.person(2), 0);
+        int[] isNew = {2, 60, 10000, 0};
+        for (int what = 0; what < 4; what++) {
+            DUE.is("in a seat that was left: of(0, " + what + ")", y.of(0, what), isNew[what]);
+        }
     }
 
     private static void personBeyond() {

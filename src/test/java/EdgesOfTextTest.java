@@ -143,6 +143,14 @@ public final class EdgesOfTextTest {
         swaps();
     }
 
+    /** A word of which any one letter is another is another word. */
+    private static void otherLetters(int people, String ahead, String word) {
+        for (int i = 0; i < word.length(); i++) {
+            String other = word.substring(0, i) + "z" + word.substring(i + 1);
+            fault(people, ahead + other, ahead.length());
+        }
+    }
+
     private static void people() {
         String[] names = {"sitter", "cougher", "weeper", "sleeper", "claque", "widow"};
         for (int kind = 0; kind < 6; kind++) {
@@ -159,9 +167,13 @@ public final class EdgesOfTextTest {
             fault(0, names[kind] + " fresh -1", names[kind].length() + 7);
             fault(0, names[kind] + " fresh", names[kind].length() + 6);
             fault(0, names[kind] + "x", 0);
+            otherLetters(0, "", names[kind]);
             fault(0, names[kind].substring(0, names[kind].length() - 1), 0);
             good(7, names[kind], 1);
             fault(8, names[kind], 0);
+        }
+        for (String word : new String[] {"fresh", "cue", "tense", "swap"}) {
+            otherLetters(0, word.equals("fresh") ? "widow " : "", word);
         }
         good(0, "widow;".repeat(7) + "widow", 8);
         fault(0, "widow;".repeat(8) + "widow", 48);
@@ -180,6 +192,7 @@ public final class EdgesOfTextTest {
             fault(0, "cue -1 " + names[q], 4);
             fault(0, "cue " + names[q], 4);
             fault(0, "cue 15 " + names[q] + "s", 7);
+            otherLetters(0, "cue 15 ", names[q]);
             fault(0, "cue 15 " + names[q] + " 1", 8 + names[q].length());
         }
         fault(0, "cue 15", 6);
