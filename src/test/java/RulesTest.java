@@ -9,6 +9,7 @@ import java.nio.file.Path;
 import java.util.Arrays;
 import java.util.List;
 import java.util.TreeSet;
+import java.util.regex.Matcher;
 import java.util.regex.Pattern;
 
 /** The rules of LANGUAGE.md that can be looked at from outside: the face, the words, the room. */
@@ -26,7 +27,11 @@ public final class RulesTest {
     private static final List<String> FORBIDDEN = List.of("\\bthrow\\b", "\\bthrows\\b", "\\btry\\b", "\\bcatch\\b",
         "\\bfinally\\b", "\\bsynchronized\\b", "\\bassert\\b", "\\bprotected\\b", "\\bpackage\\b", "\\bimport\\b",
         "->", "::", "\\bvar\\b", "\\bstatic\\s*\\{", "Exact\\b", "\\bhashCode\\b", "\\btoString\\b", "\\bThread\\b",
-        "\\bSystem\\.(?!arraycopy\\b)");
+        "\\bSystem\\.(?!arraycopy\\b)", "\\bMath\\.(?!max\\b|min\\b)", "\\[\\]\\s*\\[\\]", "\\bwhile \\(true\\)", "\\bfor \\(;;\\)");
+    // the types with a name of their own that the class may use: its own, and of the library what it needs
+    private static final TreeSet<String> TYPES =
+        new TreeSet<>(List.of("NotedHouse", "House", "Sheet", "Text", "String", "Math", "System"));
+    private static final int MOST_LINES = 60;
 
     public static void main(String[] args) throws IOException {
         theFace();
@@ -92,6 +97,28 @@ public final class RulesTest {
         for (String word : FORBIDDEN) {
             DUE.holds("no " + word, !Pattern.compile(word).matcher(source).find());
         }
+        DUE.holds("its signs are 1 to 127", Files.readString(file, StandardCharsets.ISO_8859_1).chars()
+            .allMatch(sign -> sign >= 1 && sign <= 127));
+        Matcher type = Pattern.compile("\\b[A-Z]+[a-z]\\w*").matcher(source);
+        while (type.find()) {
+            DUE.holds(type.group() + " is a type that may be used", TYPES.contains(type.group()));
+        }
+        methodsAreShort(source.lines().toList());
+    }
+
+    /** A method ends at the first brace that stands where its own line begins. */
+    private static void methodsAreShort(List<String> lines) {
+        int methods = 0;
+        for (int from = 0; from < lines.size(); from++) {
+            String line = lines.get(from);
+            if (line.matches(" +(public|private)[^=;]*\\) \\{")) {
+                String end = line.substring(0, line.indexOf('p')) + "}";
+                int to = from + lines.subList(from, lines.size()).indexOf(end);
+                DUE.holds(line.strip() + " has sixty lines at most", to > from && to - from < MOST_LINES);
+                methods++;
+            }
+        }
+        DUE.holds("the methods are looked at: " + methods, methods > FACE.size());
     }
 
     /** Calls make nothing: whatever is asked, all rows were made with the object. */
